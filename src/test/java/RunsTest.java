@@ -1,0 +1,195 @@
+/**
+ * Long runs of calls on new objects, each answer held against SlowNet's. The numbers come from a
+ * fixed row, so that each run of the test is the same one.
+ */
+public final class RunsTest {
+    private static final int RUNS = 600;
+    private static final int CALLS = 500;
+    private static final int[] ODD_KEYS = {
+        Integer.MIN_VALUE, Integer.MAX_VALUE, 0, -1, 1, 500, -500, 77, 78, 79, Integer.MIN_VALUE + 1, 31, -31, 9
+    };
+
+    private long state;
+    private int[] pool;
+    private int keep;
+    private Layerways x;
+    private SlowNet y;
+    private int run;
+
+    public static void main(String[] args) {
+        for (int run = 0; run < RUNS; run++) {
+            new RunsTest().go(run);
+        }
+        Check.end();
+    }
+
+    private int any(int below) {
+        state = state * 6364136223846793005L + 1442695040888963407L;
+        return (int) ((state >>> 33) % below);
+    }
+
+    private void go(int number) {
+        run = number;
+        state = 1234567L * number + 99;
+        x = new Layerways();
+        y = new SlowNet();
+        pool = new int[13];
+        int shift = any(5) - 2;
+        for (int at = 0; at < pool.length; at++) {
+            pool[at] = number % 3 == 0 ? ODD_KEYS[(at + number) % ODD_KEYS.length] : at + shift;
+        }
+        // From trees to nets with nearly all streets; some runs keep colours by joining odd to even.
+        keep = any(5);
+        int filled = any(13);
+        for (int at = 0; at < filled; at++) {
+            ask(0);
+        }
+        if (any(4) != 0) {
+            ask(6);
+        }
+        for (int at = filled + 1; at < CALLS; at++) {
+            ask(any(4) == 0 ? any(7) : 7 + any(26));
+        }
+    }
+
+    private int key() {
+        return pool[any(pool.length)];
+    }
+
+    private int keyThere() {
+        int many = y.places();
+        return many == 0 || any(30) == 0 ? key() : y.keyAt(any(many));
+    }
+
+    private int index() {
+        return any(25) == 0 ? (any(2) == 0 ? Integer.MAX_VALUE : Integer.MIN_VALUE) : any(14) - 1;
+    }
+
+    private void ask(int which) {
+        int a = keyThere();
+        int b = keyThere();
+        int i = index();
+        int n = any(6) == 0 ? index() : any(4);
+        switch (which) {
+            case 0: same("place", key(), 0, 0); break;
+            case 1: same(any(keep + 1) == 0 ? "leave" : "place", a, 0, 0); break;
+            case 2: case 3: same(any(6) < keep ? "street" : "tear", a, b, 0); break;
+            case 4: same("street", a, b, 0); break;
+            case 5: tearOne(a); break;
+            case 6: same("begin", a, 0, 0); break;
+            case 7: same("places", 0, 0, 0); break;
+            case 8: same("streets", 0, 0, 0); break;
+            case 9: same("isStreet", a, b, 0); break;
+            case 10: same("keyAt", i, 0, 0); break;
+            case 11: same("length", a, 0, 0); break;
+            case 12: same("farthest", 0, 0, 0); break;
+            case 13: same("layer", i, 0, 0); break;
+            case 14: same("comes", i, 0, 0); break;
+            case 15: same("ways", a, 0, 0); break;
+            case 16: case 17: same("wayAt", a, n, i); break;
+            case 18: same("through", a, b, 0); break;
+            case 19: same("isOnAll", a, b, 0); break;
+            case 20: same("onAll", a, 0, 0); break;
+            case 21: same("mean", 0, 0, 0); break;
+            case 22: same("between", a, b, 0); break;
+            case 23: same("parts", 0, 0, 0); break;
+            case 24: same("isTwoColours", 0, 0, 0); break;
+            case 25: same("colour", a, 0, 0); break;
+            case 26: same("ring", 0, 0, 0); break;
+            case 27: case 28: same("ringAt", i, 0, 0); break;
+            case 29: same("changedAt", n, 0, 0); break;
+            case 30: same("wasAt", n, 0, 0); break;
+            case 31: same("isTrue", 0, 0, 0); break;
+            default: same("checksum", 0, 0, 0); break;
+        }
+    }
+
+    /** Mostly a street that is there. */
+    private void tearOne(int a) {
+        for (int at = 0; at < y.places(); at++) {
+            int b = y.keyAt(at);
+            if (Check.outcome(() -> y.isStreet(a, b)).equals("true") && any(2) == 0) {
+                same("tear", a, b, 0);
+                return;
+            }
+        }
+        same("tear", a, keyThere(), 0);
+    }
+
+    private void same(String call, int a, int b, int c) {
+        String got = Check.outcome(() -> onClass(call, a, b, c));
+        String due = Check.outcome(() -> onSlowNet(call, a, b, c));
+        Check.same("run " + run + ": " + call + "(" + a + ", " + b + ", " + c + ")", got, due);
+        if (got.startsWith("throws.")) {
+            Check.same("run " + run + ": checksum() after " + call, Check.outcome(x::checksum), Check.outcome(y::checksum));
+        }
+    }
+
+    private Object onClass(String call, int a, int b, int c) {
+        switch (call) {
+            case "place": return x.place(a);
+            case "leave": return x.leave(a);
+            case "street": return x.street(a, b);
+            case "tear": return x.tear(a, b);
+            case "places": return x.places();
+            case "streets": return x.streets();
+            case "isStreet": return x.isStreet(a, b);
+            case "keyAt": return x.keyAt(a);
+            case "begin": return x.begin(a);
+            case "length": return x.length(a);
+            case "farthest": return x.farthest();
+            case "layer": return x.layer(a);
+            case "comes": return x.comes(a);
+            case "ways": return x.ways(a);
+            case "wayAt": return x.wayAt(a, b, c);
+            case "through": return x.through(a, b);
+            case "isOnAll": return x.isOnAll(a, b);
+            case "onAll": return x.onAll(a);
+            case "mean": return x.mean();
+            case "between": return x.between(a, b);
+            case "parts": return x.parts();
+            case "isTwoColours": return x.isTwoColours();
+            case "colour": return x.colour(a);
+            case "ring": return x.ring();
+            case "ringAt": return x.ringAt(a);
+            case "changedAt": return x.changedAt(a);
+            case "wasAt": return x.wasAt(a);
+            case "isTrue": return x.isTrue();
+            default: return x.checksum();
+        }
+    }
+
+    private Object onSlowNet(String call, int a, int b, int c) {
+        switch (call) {
+            case "place": return y.place(a);
+            case "leave": return y.leave(a);
+            case "street": return y.street(a, b);
+            case "tear": return y.tear(a, b);
+            case "places": return y.places();
+            case "streets": return y.streets();
+            case "isStreet": return y.isStreet(a, b);
+            case "keyAt": return y.keyAt(a);
+            case "begin": return y.begin(a);
+            case "length": return y.length(a);
+            case "farthest": return y.farthest();
+            case "layer": return y.layer(a);
+            case "comes": return y.comes(a);
+            case "ways": return y.ways(a);
+            case "wayAt": return y.wayAt(a, b, c);
+            case "through": return y.through(a, b);
+            case "isOnAll": return y.isOnAll(a, b);
+            case "onAll": return y.onAll(a);
+            case "mean": return y.mean();
+            case "between": return y.between(a, b);
+            case "parts": return y.parts();
+            case "isTwoColours": return y.isTwoColours();
+            case "colour": return y.colour(a);
+            case "ring": return y.ring();
+            case "ringAt": return y.ringAt(a);
+            case "changedAt": return y.changedAt(a);
+            case "wasAt": return y.wasAt(a);
+            case "isTrue": return y.isTrue();
+            default: return y.checksum();
+        }
+    }
+}
