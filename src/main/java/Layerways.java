@@ -183,6 +183,7 @@ public final class Layerways {
         int last = placeOf(key);
         int between = placeOf(via);
         needStart();
+        aside.spread(net, last);
         return countThrough(last, between);
     }
 
@@ -192,6 +193,7 @@ public final class Layerways {
         int between = placeOf(via);
         needStart();
         needWay(last);
+        aside.spread(net, last);
         return countThrough(last, between) == fromStart.counts[last];
     }
 
@@ -199,6 +201,7 @@ public final class Layerways {
         int last = placeOf(key);
         needStart();
         needWay(last);
+        aside.spread(net, last);
         int many = 0;
         for (int at = 0; at < net.size; at++) {
             if (countThrough(last, at) == fromStart.counts[last]) {
@@ -344,14 +347,14 @@ public final class Layerways {
         oddRing.find(net);
     }
 
+    /** Needs the layers from last in aside: as streets have no direction, they tell of the ways to it, too. */
     private int countThrough(int last, int via) {
-        aside.spread(net, via);
         int before = fromStart.lengths[via];
-        int after = aside.lengths[last];
+        int after = aside.lengths[via];
         if (before == NONE || after == NONE || before + after != fromStart.lengths[last]) {
             return 0;
         }
-        return fromStart.counts[via] * aside.counts[last];
+        return fromStart.counts[via] * aside.counts[via];
     }
 
     /** Needs the layers from the way's last place in aside: their counts tell how many ways go on from a place. */

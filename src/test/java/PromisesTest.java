@@ -461,6 +461,8 @@ public final class PromisesTest {
         due("layer(-1), though 7 and 8 have none", () -> x.layer(-1), 0);
         due("layer(MIN)", () -> x.layer(MIN), 0);
         due("layer(MAX)", () -> x.layer(MAX), 0);
+        Layerways y = manyWays();
+        due("layer(3) of a full net", () -> y.layer(3), 4);
     }
 
     private static void comes() {

@@ -19,6 +19,7 @@ public final class RunsTest {
     public static void main(String[] args) {
         for (int run = 0; run < RUNS; run++) {
             new RunsTest().go(run);
+            new RunsTest().goShaped(run);
         }
         Check.end();
     }
@@ -28,9 +29,9 @@ public final class RunsTest {
         return (int) ((state >>> 33) % below);
     }
 
-    private void go(int number) {
+    private void prepare(int number, int seed) {
         run = number;
-        state = 1234567L * number + 99;
+        state = 1234567L * number + seed;
         x = new Layerways();
         y = new SlowNet();
         pool = new int[13];
@@ -38,6 +39,53 @@ public final class RunsTest {
         for (int at = 0; at < pool.length; at++) {
             pool[at] = number % 3 == 0 ? ODD_KEYS[(at + number) % ODD_KEYS.length] : at + shift;
         }
+        for (int at = pool.length - 1; at > 0; at--) {
+            int other = any(at + 1);
+            int kept = pool[at];
+            pool[at] = pool[other];
+            pool[other] = kept;
+        }
+    }
+
+    /** Greater nets: layers side by side, or a long circle, or any; then few streets come and go. */
+    private void goShaped(int number) {
+        prepare(number, 4321);
+        int many = 8 + any(5);
+        for (int at = 0; at < many; at++) {
+            same("place", pool[at], 0, 0);
+        }
+        int shape = any(4);
+        int wide = 2 + any(3);
+        int tenths = 1 + any(10);
+        for (int one = 0; one < many; one++) {
+            for (int other = 0; other < one; other++) {
+                if (isInShape(shape, wide, one, other, many) && (shape == 1 || any(10) < tenths)) {
+                    same("street", pool[one], pool[other], 0);
+                }
+            }
+        }
+        same("begin", pool[any(many)], 0, 0);
+        for (int at = many + 70; at < CALLS; at++) {
+            int kind = any(60);
+            if (kind < 4) {
+                ask(3 + kind);
+            } else {
+                ask(kind == 4 ? 1 : 7 + any(26));
+            }
+        }
+    }
+
+    private static boolean isInShape(int shape, int wide, int one, int other, int many) {
+        switch (shape) {
+            case 0: return one / wide == other / wide + 1;
+            case 1: return one == other + 1 || one == many - 1 && other == 0;
+            case 2: return (one & 1) != (other & 1);
+            default: return true;
+        }
+    }
+
+    private void go(int number) {
+        prepare(number, 99);
         // From trees to nets with nearly all streets; some runs keep colours by joining odd to even.
         keep = any(5);
         int filled = any(13);
