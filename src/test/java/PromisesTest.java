@@ -2,15 +2,7 @@ import java.util.Arrays;
 import java.util.function.Supplier;
 
 /** Promise by promise: ordinary calls, the edges that the document names, and wrong calls, with answers worked out by hand. */
-public final class PromisesTest {
-    private static final int MIN = Integer.MIN_VALUE;
-    private static final int MAX = Integer.MAX_VALUE;
-    private static final String ARGUMENT = "throws.IllegalArgumentException";
-    private static final String STATE = "throws.IllegalStateException";
-    private static final String ELEMENT = "throws.NoSuchElementException";
-    private static final String INDEX = "throws.IndexOutOfBoundsException";
-    private static final String UNSUPPORTED = "throws.UnsupportedOperationException";
-
+public final class PromisesTest extends Nets {
     private static String promise = "";
 
     public static void main(String[] args) {
@@ -53,135 +45,9 @@ public final class PromisesTest {
 
     /** A call that throws, and leaves all as it was. */
     private static void refused(String what, Layerways x, Supplier<Object> call, String due) {
-        String before = everything(x);
+        String before = briefOf(x);
         due(what, call, due);
-        Check.same(promise + ": all after " + what, everything(x), before);
-    }
-
-    private static String everything(Layerways x) {
-        StringBuilder all = new StringBuilder();
-        all.append(x.checksum()).append(' ').append(x.places()).append(' ').append(x.streets());
-        all.append(' ').append(Check.outcome(x::farthest)).append(' ').append(Check.outcome(() -> x.comes(0)));
-        for (int at = 0; at < 12; at++) {
-            int index = at;
-            all.append(' ').append(Check.outcome(() -> x.keyAt(index)));
-            all.append(' ').append(Check.outcome(() -> x.changedAt(index)));
-            all.append(' ').append(Check.outcome(() -> x.wasAt(index)));
-        }
-        return all.toString();
-    }
-
-    private static Layerways net(int[] keys, int... ends) {
-        Layerways x = new Layerways();
-        for (int key : keys) {
-            x.place(key);
-        }
-        for (int at = 0; at + 1 < ends.length; at += 2) {
-            x.street(ends[at], ends[at + 1]);
-        }
-        return x;
-    }
-
-    private static int[] upTo(int last) {
-        int[] keys = new int[last];
-        for (int at = 0; at < last; at++) {
-            keys[at] = at + 1;
-        }
-        return keys;
-    }
-
-    /** 1 to 2, 3, 4; these to 5; 5 to 6; 7 and 8 apart: with three ways from 1 to 5 and to 6. */
-    private static Layerways fan() {
-        return net(upTo(8), 1, 2, 1, 3, 1, 4, 2, 5, 3, 5, 4, 5, 5, 6, 7, 8);
-    }
-
-    private static Layerways fanFrom(int start) {
-        Layerways x = fan();
-        x.begin(start);
-        return x;
-    }
-
-    /** Twelve places with as many ways as there can be: 1, then four layers of which the inner ones have 3, 3 and 4. */
-    private static Layerways manyWays() {
-        Layerways x = net(upTo(12));
-        for (int one = 2; one <= 4; one++) {
-            x.street(1, one);
-            for (int two = 5; two <= 7; two++) {
-                x.street(two, one);
-            }
-        }
-        for (int three = 8; three <= 11; three++) {
-            for (int two = 5; two <= 7; two++) {
-                x.street(three, two);
-            }
-            x.street(12, three);
-        }
-        x.begin(1);
-        return x;
-    }
-
-    private static Layerways chain(int last) {
-        Layerways x = net(upTo(last));
-        for (int key = 1; key < last; key++) {
-            x.street(key, key + 1);
-        }
-        return x;
-    }
-
-    private static Layerways circle(int... row) {
-        Layerways x = net(row);
-        for (int at = 0; at < row.length; at++) {
-            x.street(row[at], row[(at + 1) % row.length]);
-        }
-        return x;
-    }
-
-    private static String rowOf(Layerways x) {
-        StringBuilder row = new StringBuilder();
-        for (int at = 0; at < x.ring(); at++) {
-            row.append(x.ringAt(at)).append(' ');
-        }
-        return row.toString().trim();
-    }
-
-    private static String changeOf(Layerways x) {
-        StringBuilder row = new StringBuilder();
-        for (int at = 0; at < 13; at++) {
-            int index = at;
-            String key = Check.outcome(() -> x.changedAt(index));
-            String was = Check.outcome(() -> x.wasAt(index));
-            if (key.equals(INDEX) && was.equals(INDEX)) {
-                break;
-            }
-            row.append(key).append(':').append(was).append(' ');
-        }
-        return row.toString().trim();
-    }
-
-    private static String queueOf(Layerways x) {
-        StringBuilder row = new StringBuilder();
-        for (int at = 0; at < 13; at++) {
-            int index = at;
-            String key = Check.outcome(() -> x.comes(index));
-            if (key.startsWith("throws.")) {
-                return row + key;
-            }
-            row.append(key).append(' ');
-        }
-        return row.toString();
-    }
-
-    private static String wayOf(Layerways x, int key, int number) {
-        StringBuilder row = new StringBuilder();
-        for (int at = 0; at < 13; at++) {
-            int index = at;
-            String place = Check.outcome(() -> x.wayAt(key, number, index));
-            if (place.startsWith("throws.")) {
-                return row + place;
-            }
-            row.append(place).append(' ');
-        }
-        return row.toString();
+        Check.same(promise + ": all after " + what, briefOf(x), before);
     }
 
     private static void newObject() {
