@@ -5,6 +5,7 @@ import java.nio.charset.StandardCharsets;
 import java.nio.file.Files;
 import java.nio.file.Path;
 import java.util.ArrayList;
+import java.util.Arrays;
 import java.util.Comparator;
 import java.util.List;
 import java.util.function.Supplier;
@@ -13,10 +14,12 @@ import java.util.function.Supplier;
 class Edges extends Nets {
     private static String name = "";
 
-    static void run(Class<?> tests) {
+    /** All tests of the class, or those alone that are named. */
+    static void run(Class<?> tests, String[] named) {
         List<Method> found = new ArrayList<>();
         for (Method method : tests.getDeclaredMethods()) {
-            if (method.isAnnotationPresent(Sentence.class)) {
+            boolean asked = named.length == 0 || Arrays.asList(named).contains(method.getName());
+            if (asked && method.isAnnotationPresent(Sentence.class)) {
                 found.add(method);
             }
         }
@@ -61,6 +64,10 @@ class Edges extends Nets {
         Check.due(name + " " + what, call, due);
     }
 
+    static void same(String what, String got, String due) {
+        Check.same(name + " " + what, got, due);
+    }
+
     static void dueFor(String what, int[] indexes, OfIndex call, Object due) {
         for (int index : indexes) {
             due(what + " with " + index, () -> call.told(index), due);
@@ -73,9 +80,5 @@ class Edges extends Nets {
 
     interface OfNet {
         Object told(Layerways x);
-    }
-
-    interface OfKeys {
-        Object told(Layerways x, int a, int b);
     }
 }

@@ -3,7 +3,7 @@ public final class EdgesOfNetTest extends Edges {
     private static final int[] NO_NUMBERS = {-1, MIN, MAX};
 
     public static void main(String[] args) {
-        run(EdgesOfNetTest.class);
+        run(EdgesOfNetTest.class, args);
     }
 
     // ---- 1 a new object
@@ -186,11 +186,12 @@ public final class EdgesOfNetTest extends Edges {
 
     @Sentence(at = "Promise 4: street", says = "if there is a street between them")
     static void streetIfThereIsAStreetBetweenThem() {
-        Layerways x = net(upTo(3), 1, 2);
+        Layerways x = net(upTo(4), 1, 2, 2, 3);
         due("street(1, 2)", () -> x.street(1, 2), STATE);
         due("street(2, 1)", () -> x.street(2, 1), STATE);
-        due("street(1, 3), none there", () -> x.street(1, 3), 0);
-        due("street(2, 3), a way but no street", () -> x.street(2, 3), 0);
+        due("street(1, 3), a way but no street", () -> x.street(1, 3), 0);
+        due("street(3, 4), none there", () -> x.street(3, 4), 0);
+        due("street(3, 1), just put", () -> x.street(3, 1), STATE);
         x.tear(1, 2);
         due("street(2, 1) once it is gone", () -> x.street(2, 1), 0);
         x.leave(1);

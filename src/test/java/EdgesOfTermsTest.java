@@ -5,7 +5,7 @@ public final class EdgesOfTermsTest extends Edges {
     private static final int[] KEYS_OF_ALL_KINDS = {MAX, 0, MIN, -1, 1, MIN + 1, MAX - 1};
 
     public static void main(String[] args) {
-        run(EdgesOfTermsTest.class);
+        run(EdgesOfTermsTest.class, args);
     }
 
     // ---- the theorem
@@ -36,7 +36,7 @@ public final class EdgesOfTermsTest extends Edges {
             for (int index = 0; index < 5; index++) {
                 way.append((char) ('a' + x.wayAt(12, number, index)));
             }
-            Check.same("way " + number + " behind the one before", String.valueOf(way.compareTo(new StringBuilder(before)) > 0), "true");
+            same("way " + number + " behind the one before", String.valueOf(way.compareTo(new StringBuilder(before)) > 0), "true");
             before = way.toString();
             rising.add(before);
         }
@@ -433,10 +433,14 @@ public final class EdgesOfTermsTest extends Edges {
         due("change by 2 to 3 taken away, none", () -> changeOf(x), "");
         x.tear(1, 3);
         due("change by 1 to 3 taken away", () -> changeOf(x), "3:1");
-        x.tear(4, 5);
-        due("change by 4 to 5 taken away, none", () -> changeOf(x), "");
         x.street(4, 3);
         due("change by 4 to 3, none", () -> changeOf(x), "");
+        x.street(1, 5);
+        due("change by 1 to 5", () -> changeOf(x), "3:-1 4:-1 5:-1");
+        x.tear(4, 3);
+        due("change by 4 to 3 taken away", () -> changeOf(x), "3:3");
+        x.tear(2, 1);
+        due("change by 2 to 1 taken away", () -> changeOf(x), "2:1");
     }
 
     @Sentence(at = "Terms", says = "the places that have another length then than before, none counted as one, too")

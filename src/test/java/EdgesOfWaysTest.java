@@ -3,7 +3,7 @@ public final class EdgesOfWaysTest extends Edges {
     private static final int[] NO_NUMBERS = {-1, MIN, MAX};
 
     public static void main(String[] args) {
-        run(EdgesOfWaysTest.class);
+        run(EdgesOfWaysTest.class, args);
     }
 
     /** What a call answers if no start was ever made, if the start is gone, and in a net without places. */

@@ -5,7 +5,7 @@ public final class EdgesOfWholeNetTest extends Edges {
     private static final int[] NO_NUMBERS = {-1, MIN, MAX};
 
     public static void main(String[] args) {
-        run(EdgesOfWholeNetTest.class);
+        run(EdgesOfWholeNetTest.class, args);
     }
 
     // ---- 21 between

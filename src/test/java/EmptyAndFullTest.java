@@ -3,7 +3,7 @@ public final class EmptyAndFullTest extends Edges {
     private static final String SENTENCE = "There are at most 12 places, none at first.";
 
     public static void main(String[] args) {
-        run(EmptyAndFullTest.class);
+        run(EmptyAndFullTest.class, args);
     }
 
     /** On a new net, on one whose places all left, and on one whose start left last. */

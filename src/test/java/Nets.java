@@ -175,12 +175,12 @@ class Nets {
 
     /** All that the document lets an object keep: places, streets, start and change, and the checksum; some 130 calls. */
     static String stateOf(Layerways x) {
-        StringBuilder all = new StringBuilder();
-        all.append(x.places()).append(" places ").append(keysOf(x));
-        all.append(", ").append(x.streets()).append(" streets ").append(streetsOf(x));
-        all.append(", start ").append(Check.outcome(() -> x.comes(0)));
-        all.append(", change ").append(changeOf(x));
+        // The change first: a call that lost it on its way would lose it in both of two nets that are held together.
+        StringBuilder all = new StringBuilder("change ").append(changeOf(x));
         all.append(", sum ").append(x.checksum());
+        all.append(", start ").append(Check.outcome(() -> x.comes(0)));
+        all.append(", ").append(x.places()).append(" places ").append(keysOf(x));
+        all.append(", ").append(x.streets()).append(" streets ").append(streetsOf(x));
         return all.toString();
     }
 

@@ -6,7 +6,7 @@ public final class RefusalsTest extends Edges {
     private static final String FIRST_ONE = "If several exceptions apply, the one that is documented first is thrown.";
 
     public static void main(String[] args) {
-        run(RefusalsTest.class);
+        run(RefusalsTest.class, args);
     }
 
     // ---- a method that throws changes nothing
@@ -44,11 +44,11 @@ public final class RefusalsTest extends Edges {
     private static void leavesAll(String call, Supplier<Layerways> made, OfNet refused, String due) {
         Layerways x = made.get();
         due(call, () -> refused.told(x), due);
-        Check.same("state after " + call, stateOf(x), stateOf(made.get()));
+        same("state after " + call, stateOf(x), stateOf(made.get()));
         Layerways y = made.get();
         Layerways twin = made.get();
         Check.outcome(() -> refused.told(y));
-        Check.same("what comes after " + call, wentOn(y), wentOn(twin));
+        same("what comes after " + call, wentOn(y), wentOn(twin));
     }
 
     private static String wentOn(Layerways x) {
