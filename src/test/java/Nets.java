@@ -148,10 +148,11 @@ class Nets {
 
     static String streetsOf(Layerways x) {
         StringBuilder row = new StringBuilder();
-        for (int one = 0; one < x.places(); one++) {
-            int a = x.keyAt(one);
-            for (int other = one + 1; other < x.places(); other++) {
-                int b = x.keyAt(other);
+        int[] keys = allKeys(x);
+        for (int one = 0; one < keys.length; one++) {
+            for (int other = one + 1; other < keys.length; other++) {
+                int a = keys[one];
+                int b = keys[other];
                 String there = Check.outcome(() -> x.isStreet(a, b));
                 if (!there.equals("false")) {
                     row.append(a).append('-').append(b).append(there.equals("true") ? " " : there + " ");
@@ -161,14 +162,22 @@ class Nets {
         return row.toString().trim();
     }
 
+    private static int[] allKeys(Layerways x) {
+        int[] keys = new int[x.places()];
+        for (int at = 0; at < keys.length; at++) {
+            keys[at] = x.keyAt(at);
+        }
+        return keys;
+    }
+
     private interface OfKey {
         String told(int key);
     }
 
     private static String eachOf(Layerways x, OfKey told) {
         StringBuilder row = new StringBuilder();
-        for (int at = 0; at < x.places(); at++) {
-            row.append(told.told(x.keyAt(at))).append(' ');
+        for (int key : allKeys(x)) {
+            row.append(told.told(key)).append(' ');
         }
         return row.toString().trim();
     }

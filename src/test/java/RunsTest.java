@@ -4,7 +4,9 @@
  */
 public final class RunsTest {
     private static final int RUNS = 600;
-    private static final int CALLS = 500;
+    private static final int CALLS = 512;
+    /** What an object answers behind its 512th call is free. */
+    private static final int PROMISED = 512;
     private static final int[] ODD_KEYS = {
         Integer.MIN_VALUE, Integer.MAX_VALUE, 0, -1, 1, 500, -500, 77, 78, 79, Integer.MIN_VALUE + 1, 31, -31, 9
     };
@@ -15,6 +17,7 @@ public final class RunsTest {
     private Layerways x;
     private SlowNet y;
     private int run;
+    private int calls;
 
     public static void main(String[] args) {
         for (int run = 0; run < RUNS; run++) {
@@ -165,10 +168,15 @@ public final class RunsTest {
     }
 
     private void same(String call, int a, int b, int c) {
+        if (calls + 2 > PROMISED) {
+            return;
+        }
+        calls++;
         String got = Check.outcome(() -> onClass(call, a, b, c));
         String due = Check.outcome(() -> onSlowNet(call, a, b, c));
         Check.same("run " + run + ": " + call + "(" + a + ", " + b + ", " + c + ")", got, due);
         if (got.startsWith("throws.")) {
+            calls++;
             Check.same("run " + run + ": checksum() after " + call, Check.outcome(x::checksum), Check.outcome(y::checksum));
         }
     }
