@@ -46,7 +46,7 @@ class Edges extends Nets {
     }
 
     /** The words of the section under a heading, with one space between any two. */
-    private static String section(String heading) {
+    static String section(String heading) {
         try {
             String all = Files.readString(Path.of("..", "shared", "DOC.md"), StandardCharsets.UTF_8);
             int from = all.indexOf("\n## " + heading + "\n");

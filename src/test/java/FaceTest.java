@@ -3,12 +3,17 @@ import java.lang.reflect.Executable;
 import java.lang.reflect.Field;
 import java.lang.reflect.Method;
 import java.lang.reflect.Modifier;
+import java.util.Arrays;
 import java.util.Map;
 import java.util.TreeMap;
 import java.util.TreeSet;
+import java.util.regex.Matcher;
+import java.util.regex.Pattern;
 
 /** The class shows just what the document's section "The public face" has, with the exceptions in its order. */
 public final class FaceTest {
+    /** Type, name, parameters, and exceptions or null. */
+    private static final Pattern METHOD = Pattern.compile("public (\\w+) (\\w+)\\(([^)]*)\\)(?: throws ([^;]+))?;");
     private static final String[] FACE = {
         "int place(int) IllegalArgumentException IllegalStateException",
         "int leave(int) NoSuchElementException",
@@ -42,6 +47,7 @@ public final class FaceTest {
     };
 
     public static void main(String[] args) {
+        documentHasThisFace();
         Map<String, String> due = new TreeMap<>();
         for (String line : FACE) {
             due.put(line.substring(line.indexOf(' ') + 1, line.indexOf('(')), "public " + line);
@@ -73,6 +79,17 @@ public final class FaceTest {
         Check.same("constructor", Modifier.toString(makers[0].getModifiers()) + asks(makers[0]), "public()");
         Check.same("class", Modifier.toString(Layerways.class.getModifiers()), "public final");
         Check.end();
+    }
+
+    private static void documentHasThisFace() {
+        TreeSet<String> due = new TreeSet<>();
+        Matcher found = METHOD.matcher(Edges.section("The public face"));
+        while (found.find()) {
+            String types = found.group(3).replaceAll(" \\w+(,|$)", "$1");
+            String thrown = found.group(4) == null ? "" : " " + found.group(4).replace(",", "");
+            due.add(found.group(1) + " " + found.group(2) + "(" + types + ")" + thrown);
+        }
+        Check.same("the document's face", new TreeSet<>(Arrays.asList(FACE)).toString(), due.toString());
     }
 
     private static String asks(Executable member) {

@@ -5,8 +5,6 @@
 public final class RunsTest {
     private static final int RUNS = 600;
     private static final int CALLS = 512;
-    /** What an object answers behind its 512th call is free. */
-    private static final int PROMISED = 512;
     private static final int[] ODD_KEYS = {
         Integer.MIN_VALUE, Integer.MAX_VALUE, 0, -1, 1, 500, -500, 77, 78, 79, Integer.MIN_VALUE + 1, 31, -31, 9
     };
@@ -14,10 +12,8 @@ public final class RunsTest {
     private long state;
     private int[] pool;
     private int keep;
-    private Layerways x;
+    private Twins twins;
     private SlowNet y;
-    private int run;
-    private int calls;
 
     public static void main(String[] args) {
         for (int run = 0; run < RUNS; run++) {
@@ -33,10 +29,9 @@ public final class RunsTest {
     }
 
     private void prepare(int number, int seed) {
-        run = number;
         state = 1234567L * number + seed;
-        x = new Layerways();
-        y = new SlowNet();
+        twins = new Twins("run " + number);
+        y = twins.slow();
         pool = new int[13];
         int shift = any(5) - 2;
         for (int at = 0; at < pool.length; at++) {
@@ -168,84 +163,6 @@ public final class RunsTest {
     }
 
     private void same(String call, int a, int b, int c) {
-        if (calls + 2 > PROMISED) {
-            return;
-        }
-        calls++;
-        String got = Check.outcome(() -> onClass(call, a, b, c));
-        String due = Check.outcome(() -> onSlowNet(call, a, b, c));
-        Check.same("run " + run + ": " + call + "(" + a + ", " + b + ", " + c + ")", got, due);
-        if (got.startsWith("throws.")) {
-            calls++;
-            Check.same("run " + run + ": checksum() after " + call, Check.outcome(x::checksum), Check.outcome(y::checksum));
-        }
-    }
-
-    private Object onClass(String call, int a, int b, int c) {
-        switch (call) {
-            case "place": return x.place(a);
-            case "leave": return x.leave(a);
-            case "street": return x.street(a, b);
-            case "tear": return x.tear(a, b);
-            case "places": return x.places();
-            case "streets": return x.streets();
-            case "isStreet": return x.isStreet(a, b);
-            case "keyAt": return x.keyAt(a);
-            case "begin": return x.begin(a);
-            case "length": return x.length(a);
-            case "farthest": return x.farthest();
-            case "layer": return x.layer(a);
-            case "comes": return x.comes(a);
-            case "ways": return x.ways(a);
-            case "wayAt": return x.wayAt(a, b, c);
-            case "through": return x.through(a, b);
-            case "isOnAll": return x.isOnAll(a, b);
-            case "onAll": return x.onAll(a);
-            case "mean": return x.mean();
-            case "between": return x.between(a, b);
-            case "parts": return x.parts();
-            case "isTwoColours": return x.isTwoColours();
-            case "colour": return x.colour(a);
-            case "ring": return x.ring();
-            case "ringAt": return x.ringAt(a);
-            case "changedAt": return x.changedAt(a);
-            case "wasAt": return x.wasAt(a);
-            case "isTrue": return x.isTrue();
-            default: return x.checksum();
-        }
-    }
-
-    private Object onSlowNet(String call, int a, int b, int c) {
-        switch (call) {
-            case "place": return y.place(a);
-            case "leave": return y.leave(a);
-            case "street": return y.street(a, b);
-            case "tear": return y.tear(a, b);
-            case "places": return y.places();
-            case "streets": return y.streets();
-            case "isStreet": return y.isStreet(a, b);
-            case "keyAt": return y.keyAt(a);
-            case "begin": return y.begin(a);
-            case "length": return y.length(a);
-            case "farthest": return y.farthest();
-            case "layer": return y.layer(a);
-            case "comes": return y.comes(a);
-            case "ways": return y.ways(a);
-            case "wayAt": return y.wayAt(a, b, c);
-            case "through": return y.through(a, b);
-            case "isOnAll": return y.isOnAll(a, b);
-            case "onAll": return y.onAll(a);
-            case "mean": return y.mean();
-            case "between": return y.between(a, b);
-            case "parts": return y.parts();
-            case "isTwoColours": return y.isTwoColours();
-            case "colour": return y.colour(a);
-            case "ring": return y.ring();
-            case "ringAt": return y.ringAt(a);
-            case "changedAt": return y.changedAt(a);
-            case "wasAt": return y.wasAt(a);
-            case "isTrue": return y.isTrue();
-            default: return y.checksum();
-        }
+        twins.same(call, a, b, c);
     }
 }
